@@ -590,7 +590,9 @@ public final class SilenceHours {
             int paid = Math.min(fine, freeMoney(person));
             purses[person] -= paid;
             debts[person] += fine - paid;
-            funds[street] += paid - shareFine(slot, paid);
+            // What a debtor gets may come to this very fund, so it is shared before the fund is read.
+            int shared = shareFine(slot, paid);
+            funds[street] += paid - shared;
             return paid;
         }
 
