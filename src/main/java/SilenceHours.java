@@ -381,7 +381,7 @@ public final class SilenceHours {
 
         /** The amount that a person bids for a side of a slot, 0 without such a bid. */
         int bidFor(int person, int slot, int side) {
-            int marked = markedBid(person, slot);
+            int marked = bids[person * SLOTS + slot];
             boolean isNoise = marked > NOISE_MARK;
             if (side == NOISE) {
                 return isNoise ? marked - NOISE_MARK : 0;
@@ -836,7 +836,7 @@ public final class SilenceHours {
         private boolean takeIf(char wanted) {
             boolean stands = !hasFailed() && sign() == wanted;
             if (stands) {
-                skip();
+                position++;
             }
             return stands;
         }

@@ -13,6 +13,7 @@ final class DaysAndBreachesTest {
         promise6CarriedQuietIsHalved();
         promise6ShareGoesToDebt();
         promise6ManySlots();
+        promise6TwelvePeople();
         promise6LastDay();
         promise7FineIsPaid();
         promise7FineBecomesDebt();
@@ -24,6 +25,7 @@ final class DaysAndBreachesTest {
         promise7Errors();
         promise8Undo();
         promise8UndoEachAction();
+        promise8UndoOfWhatIsNotSeen();
         promise8UndoKeepsTextAndFailure();
         promise8UnsuccessfulCallsAreNotRecorded();
         CHECKS.end();
@@ -209,6 +211,32 @@ final class DaysAndBreachesTest {
         CHECKS.due("paid by 0", x.person(0, 5), 50);
     }
 
+    private static void promise6TwelvePeople() {
+        SilenceHours x = Checks.auction(100, 100, 100, 100, 100, 100, 100, 100, 100, 100, 100, 100);
+        for (int person = 0; person < 12; person++) {
+            x.bid(person, 0, 0, person < 6 ? Checks.QUIET : Checks.NOISE, person + 1);
+            x.bid(person, 3, 23, Checks.QUIET, 1);
+        }
+        CHECKS.due("quiet", x.slot(0, 0, 1), 21);
+        CHECKS.due("noise", x.slot(0, 0, 2), 57);
+        CHECKS.due("bids for the slot", x.slot(0, 0, 4), 12);
+        CHECKS.due("bids", x.count(2), 24);
+        CHECKS.due("bids of the twelfth", x.person(11, 3), 2);
+        CHECKS.due("purseThen of the sixth", x.purseThen(5), 115);
+        CHECKS.due("settle", x.settle(), 1);
+        CHECKS.due("purse of the sixth", x.person(5, 0), 115);
+        CHECKS.due("purse of the twelfth", x.person(11, 0), 87);
+        // 57 * 1, 2, .. 6 / 21 are 2, 5, 8, 10, 13 and 16, together 54.
+        CHECKS.due("fund 0", x.fund(0), 3);
+        CHECKS.due("fund 3", x.fund(3), 12);
+        CHECKS.due("breach for quiet of all", x.breach(11, 3, 23), 20);
+        CHECKS.due("purse of the twelfth", x.person(11, 0), 68);
+        CHECKS.due("purse of the first", x.person(0, 0), 102);
+        CHECKS.due("fund 3", x.fund(3), 20);
+        CHECKS.due("money", x.count(5), 1200);
+        CHECKS.due("debts", x.count(6), 0);
+    }
+
     /** Day 999 is beyond the promised 512 calls; the class keeps to the words there too. */
     private static void promise6LastDay() {
         SilenceHours x = new SilenceHours();
@@ -228,6 +256,7 @@ final class DaysAndBreachesTest {
         CHECKS.due("breaches by 0", x.person(0, 7), 1);
         CHECKS.due("breaches by 1", x.person(1, 7), 0);
         CHECKS.due("breaches", x.count(7), 1);
+        CHECKS.due("money", x.count(5), 120);
         x.setFine(30);
         CHECKS.due("breach for all that is free", x.breach(0, 2, 7), 30);
         CHECKS.due("debt", x.person(0, 2), 0);
@@ -333,6 +362,7 @@ final class DaysAndBreachesTest {
         CHECKS.due("purse", x.person(0, 0), 70);
         x.pay(1, 20);
         CHECKS.due("fund 0", x.fund(0), 20);
+        CHECKS.due("money", x.count(5), 130);
     }
 
     private static void promise7FineWithoutWinners() {
@@ -422,6 +452,33 @@ final class DaysAndBreachesTest {
             case 7: return x.breach(1, 1, 0);
             default: return x.run(1);
         }
+    }
+
+    /** Whom a fine goes to, which fund a debt, and which side a tie: it shows only in what is done next. */
+    private static void promise8UndoOfWhatIsNotSeen() {
+        SilenceHours x = Checks.auction(0, 100, 100);
+        x.bid(1, 0, 0, Checks.QUIET, 4);
+        x.settle();
+        x.breach(0, 1, 0);
+        x.bid(2, 0, 0, Checks.QUIET, 5);
+        x.settle();
+        x.undo();
+        x.undo();
+        x.breach(0, 2, 0);
+        x.undo();
+        x.pay(0, 20);
+        CHECKS.due("the debt goes to the street of the breach that stays", x.fund(1), 20);
+        CHECKS.due("purse 1", x.person(1, 0), 96);
+        CHECKS.due("breach", x.breach(2, 0, 0), 20);
+        CHECKS.due("the fine goes to the winner of the day that stays", x.person(1, 0), 116);
+        x.bid(1, 0, 0, Checks.QUIET, 4);
+        x.bid(2, 0, 0, Checks.NOISE, 5);
+        x.settle();
+        CHECKS.due("shared out", x.person(1, 6), 5);
+        x.undo();
+        CHECKS.due("nothing shared out", x.person(1, 6), 0);
+        x.bid(2, 0, 0, Checks.NOISE, 4);
+        CHECKS.due("the tie of the day that stays", x.winner(0, 0), Checks.NOISE);
     }
 
     private static void promise8UndoKeepsTextAndFailure() {

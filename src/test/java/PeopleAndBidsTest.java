@@ -9,6 +9,7 @@ final class PeopleAndBidsTest {
         promise3Pay();
         promise3PayOut();
         promise3PayForDebt();
+        promise3PayOutWithDebtAndFreeMoney();
         promise3PurseLimit();
         promise3PurseAboveLimit();
         promise4Bid();
@@ -115,6 +116,22 @@ final class PeopleAndBidsTest {
         CHECKS.due("pay out without a debt", x.pay(0, -1), 0);
     }
 
+    /** A bid that was lost is free money again, and the debt stays. */
+    private static void promise3PayOutWithDebtAndFreeMoney() {
+        SilenceHours x = Checks.auction(5, 100);
+        x.bid(0, 0, 0, Checks.QUIET, 5);
+        x.bid(1, 0, 0, Checks.NOISE, 6);
+        x.setFine(7);
+        x.breach(0, 1, 0);
+        x.settle();
+        CHECKS.due("debt", x.person(0, 2), 1);
+        CHECKS.due("free", x.person(0, 1), 5);
+        CHECKS.due("pay out", x.pay(0, -1), Checks.ILLEGAL);
+        CHECKS.due("pay 0", x.pay(0, 0), 5);
+        CHECKS.due("pay 1", x.pay(0, 1), 5);
+        CHECKS.due("pay out", x.pay(0, -5), 0);
+    }
+
     private static void promise3PurseLimit() {
         SilenceHours x = Checks.auction(100000, 999);
         for (int times = 0; times < 99; times++) {
@@ -192,6 +209,9 @@ final class PeopleAndBidsTest {
         CHECKS.due("a bad amount with a debt", x.bid(0, 1, 1, 0, 1000), Checks.INVALID);
         CHECKS.dueText("nothing has changed", Checks.allSeen(x), before);
         CHECKS.due("the bid stays", x.bidOf(0, 1, 1), 1010);
+        x.pay(0, 19);
+        CHECKS.due("debt", x.person(0, 2), 1);
+        CHECKS.due("no bid with a debt of 1", x.bid(0, 2, 2, 0, 0), Checks.ILLEGAL);
         x.settle();
         CHECKS.due("and is won", x.person(0, 4), 1);
     }
