@@ -32,6 +32,14 @@ final class Checks {
         due(what + " (" + got + " for " + want + ")", same ? 1 : 0, 1);
     }
 
+    int made() {
+        return right + wrong;
+    }
+
+    int wrong() {
+        return wrong;
+    }
+
     void end() {
         System.out.println(test + ": " + right + " right, " + wrong + " wrong");
         if (wrong > 0 || right == 0) {
