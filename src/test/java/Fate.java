@@ -78,8 +78,10 @@ final class Fate {
 
     /** A person with money: a new one, or the last of twelve. */
     private static int newcomer(Auction x) {
-        x.join(100000);
-        return x.count(1) - 1;
+        x.join(0);
+        int newcomer = x.count(1) - 1;
+        x.pay(newcomer, 100000);
+        return newcomer;
     }
 
     private static void runText(Auction x) {

@@ -1,5 +1,6 @@
 import java.io.IOException;
 import java.lang.reflect.Method;
+import java.nio.file.DirectoryStream;
 import java.nio.file.Files;
 import java.nio.file.Path;
 import java.util.Arrays;
@@ -9,8 +10,7 @@ import java.util.Map;
 /** Holds the marks of the tests against the document: each mark is in it word for word, and each sentence is marked. */
 final class SentencesTest {
     private static final Path DOCUMENT = Path.of("../shared/DOC.md");
-    private static final Class<?>[] MARKED = {PeopleBoundsTest.class, SettlingBoundsTest.class, BreachBoundsTest.class,
-        UndoBoundsTest.class, PlansBoundsTest.class, LookingBoundsTest.class, ForecastBoundsTest.class};
+    private static final Path TESTS = Path.of("src/test/java");
     /** The headings whose text needs no test as a whole: it describes, lists signatures, or rules things out. */
     private static final String NOT_ALL_TESTED = "SilenceHours|What it is|The public face|Not promised";
     private static final char TESTED = '#';
@@ -19,14 +19,12 @@ final class SentencesTest {
     private final Map<String, String> textUnder = new LinkedHashMap<>();
     private final Map<String, char[]> untestedUnder = new LinkedHashMap<>();
 
-    public static void main(String[] arguments) throws IOException {
+    public static void main(String[] arguments) throws IOException, ClassNotFoundException {
         SentencesTest test = new SentencesTest();
         test.readDocument(Files.readString(DOCUMENT));
-        for (Class<?> tests : MARKED) {
-            for (Method method : tests.getDeclaredMethods()) {
-                for (Says mark : method.getAnnotationsByType(Says.class)) {
-                    test.takeOff(mark, tests.getName() + "." + method.getName());
-                }
+        try (DirectoryStream<Path> files = Files.newDirectoryStream(TESTS, "*BoundsTest.java")) {
+            for (Path file : files) {
+                test.takeOffAll(Class.forName(file.getFileName().toString().replace(".java", "")));
             }
         }
         test.nothingIsLeft();
@@ -51,6 +49,14 @@ final class SentencesTest {
             untestedUnder.put(heading, text.toCharArray());
         }
         checks.due("sections of promises", (int) textUnder.keySet().stream().filter(x -> x.startsWith("Promise")).count(), 21);
+    }
+
+    private void takeOffAll(Class<?> tests) {
+        for (Method method : tests.getDeclaredMethods()) {
+            for (Says mark : method.getAnnotationsByType(Says.class)) {
+                takeOff(mark, tests.getName() + "." + method.getName());
+            }
+        }
     }
 
     private void takeOff(Says mark, String test) {
