@@ -14,7 +14,6 @@ final class DaysAndBreachesTest {
         promise6ShareGoesToDebt();
         promise6ManySlots();
         promise6TwelvePeople();
-        promise6LastDay();
         promise7FineIsPaid();
         promise7FineBecomesDebt();
         promise7FineIsShared();
@@ -32,7 +31,7 @@ final class DaysAndBreachesTest {
     }
 
     private static void promise6SettleWithoutBids() {
-        SilenceHours x = Checks.auction(10);
+        Auction x = Auction.of(CHECKS, 10);
         CHECKS.due("settle", x.settle(), 0);
         CHECKS.due("day", x.count(0), 1);
         CHECKS.due("settle", x.settle(), 0);
@@ -42,7 +41,7 @@ final class DaysAndBreachesTest {
     }
 
     private static void promise6NoiseWins() {
-        SilenceHours x = Checks.auction(100, 100, 100, 100, 100);
+        Auction x = Auction.of(CHECKS, 100, 100, 100, 100, 100);
         x.bid(0, 2, 5, Checks.QUIET, 3);
         x.bid(1, 2, 5, Checks.QUIET, 4);
         x.bid(2, 2, 5, Checks.NOISE, 6);
@@ -72,7 +71,7 @@ final class DaysAndBreachesTest {
     }
 
     private static void promise6QuietWins() {
-        SilenceHours x = Checks.auction(100, 100, 100);
+        Auction x = Auction.of(CHECKS, 100, 100, 100);
         x.bid(0, 3, 0, Checks.QUIET, 10);
         x.bid(1, 3, 0, Checks.NOISE, 2);
         x.bid(2, 3, 0, Checks.NOISE, 1);
@@ -88,8 +87,8 @@ final class DaysAndBreachesTest {
     }
 
     /** Lets noise win 9 to 8, so that 4 of quiet is carried on. */
-    private static SilenceHours withCarriedQuiet() {
-        SilenceHours x = Checks.auction(100, 100);
+    private static Auction withCarriedQuiet() {
+        Auction x = Auction.of(CHECKS, 100, 100);
         x.bid(0, 1, 1, Checks.QUIET, 8);
         x.bid(1, 1, 1, Checks.NOISE, 9);
         x.settle();
@@ -98,7 +97,7 @@ final class DaysAndBreachesTest {
     }
 
     private static void promise6CarriedQuietWinsAlone() {
-        SilenceHours x = withCarriedQuiet();
+        Auction x = withCarriedQuiet();
         x.bid(1, 1, 1, Checks.NOISE, 3);
         CHECKS.due("settle", x.settle(), 0);
         CHECKS.due("owner", x.slot(1, 1, 0), Checks.QUIET);
@@ -114,7 +113,7 @@ final class DaysAndBreachesTest {
     }
 
     private static void promise6NobodyToShareWith() {
-        SilenceHours x = Checks.auction(100, 100);
+        Auction x = Auction.of(CHECKS, 100, 100);
         x.bid(0, 1, 1, Checks.NOISE, 8);
         x.bid(1, 1, 1, Checks.NOISE, 9);
         x.settle();
@@ -126,7 +125,7 @@ final class DaysAndBreachesTest {
     }
 
     private static void promise6TiesGoToTheOtherSide() {
-        SilenceHours x = Checks.auction(100, 100);
+        Auction x = Auction.of(CHECKS, 100, 100);
         int[] dueSides = {Checks.QUIET, Checks.NOISE, Checks.QUIET, Checks.NOISE};
         int[] noiseBids = {6, 6, 9, 6};
         for (int day = 0; day < dueSides.length; day++) {
@@ -138,7 +137,7 @@ final class DaysAndBreachesTest {
     }
 
     private static void promise6TieSideStaysWithoutBids() {
-        SilenceHours x = Checks.auction(100, 100);
+        Auction x = Auction.of(CHECKS, 100, 100);
         x.bid(0, 0, 3, Checks.QUIET, 1);
         x.settle();
         x.settle();
@@ -153,7 +152,7 @@ final class DaysAndBreachesTest {
     }
 
     private static void promise6CarriedQuietIsHalved() {
-        SilenceHours x = Checks.auction(5000, 5000);
+        Auction x = Auction.of(CHECKS, 5000, 5000);
         x.bid(0, 1, 1, Checks.QUIET, 27);
         x.bid(1, 1, 1, Checks.NOISE, 30);
         x.settle();
@@ -176,7 +175,7 @@ final class DaysAndBreachesTest {
     }
 
     private static void promise6ShareGoesToDebt() {
-        SilenceHours x = Checks.auction(5, 100);
+        Auction x = Auction.of(CHECKS, 5, 100);
         x.bid(0, 0, 0, Checks.QUIET, 5);
         x.bid(1, 0, 0, Checks.NOISE, 12);
         x.breach(0, 3, 9);
@@ -194,7 +193,7 @@ final class DaysAndBreachesTest {
     }
 
     private static void promise6ManySlots() {
-        SilenceHours x = Checks.auction(1000, 1000);
+        Auction x = Auction.of(CHECKS, 1000, 1000);
         for (int street = 0; street < 4; street++) {
             x.bid(0, street, 0, Checks.NOISE, 1 + street);
             x.bid(0, street, 23, Checks.NOISE, 10);
@@ -212,7 +211,7 @@ final class DaysAndBreachesTest {
     }
 
     private static void promise6TwelvePeople() {
-        SilenceHours x = Checks.auction(100, 100, 100, 100, 100, 100, 100, 100, 100, 100, 100, 100);
+        Auction x = Auction.of(CHECKS, 100, 100, 100, 100, 100, 100, 100, 100, 100, 100, 100, 100);
         for (int person = 0; person < 12; person++) {
             x.bid(person, 0, 0, person < 6 ? Checks.QUIET : Checks.NOISE, person + 1);
             x.bid(person, 3, 23, Checks.QUIET, 1);
@@ -237,18 +236,8 @@ final class DaysAndBreachesTest {
         CHECKS.due("debts", x.count(6), 0);
     }
 
-    /** Day 999 is beyond the promised 512 calls; the class keeps to the words there too. */
-    private static void promise6LastDay() {
-        SilenceHours x = new SilenceHours();
-        for (int day = 0; day < 999; day++) {
-            CHECKS.due("settle", x.settle(), 0);
-        }
-        CHECKS.due("settle on day 999", x.settle(), Checks.ILLEGAL);
-        CHECKS.due("day", x.count(0), 999);
-    }
-
     private static void promise7FineIsPaid() {
-        SilenceHours x = Checks.auction(50, 70);
+        Auction x = Auction.of(CHECKS, 50, 70);
         CHECKS.due("breach", x.breach(0, 2, 7), 20);
         CHECKS.due("purse", x.person(0, 0), 30);
         CHECKS.due("debt", x.person(0, 2), 0);
@@ -270,7 +259,7 @@ final class DaysAndBreachesTest {
     }
 
     private static void promise7FineBecomesDebt() {
-        SilenceHours x = Checks.auction(50);
+        Auction x = Auction.of(CHECKS, 50);
         x.bid(0, 0, 0, Checks.NOISE, 35);
         CHECKS.due("breach", x.breach(0, 1, 0), 15);
         CHECKS.due("purse", x.person(0, 0), 35);
@@ -283,7 +272,7 @@ final class DaysAndBreachesTest {
     }
 
     private static void promise7FineIsShared() {
-        SilenceHours x = Checks.auction(100, 100, 100, 100, 100);
+        Auction x = Auction.of(CHECKS, 100, 100, 100, 100, 100);
         x.bid(0, 0, 6, Checks.QUIET, 10);
         x.bid(1, 0, 6, Checks.QUIET, 1);
         x.bid(2, 0, 6, Checks.QUIET, 1);
@@ -310,7 +299,7 @@ final class DaysAndBreachesTest {
     }
 
     private static void promise7FineToOneself() {
-        SilenceHours x = Checks.auction(30, 30);
+        Auction x = Auction.of(CHECKS, 30, 30);
         x.bid(0, 0, 6, Checks.QUIET, 10);
         x.bid(1, 0, 6, Checks.QUIET, 10);
         x.settle();
@@ -327,7 +316,7 @@ final class DaysAndBreachesTest {
     }
 
     private static void promise7FineToDebtors() {
-        SilenceHours x = Checks.auction(10, 100);
+        Auction x = Auction.of(CHECKS, 10, 100);
         x.bid(0, 0, 6, Checks.QUIET, 10);
         x.settle();
         x.breach(0, 3, 3);
@@ -345,7 +334,7 @@ final class DaysAndBreachesTest {
     }
 
     private static void promise7FundOfTheLatestBreach() {
-        SilenceHours x = Checks.auction(0, 0);
+        Auction x = Auction.of(CHECKS, 0, 0);
         x.breach(0, 1, 0);
         x.breach(1, 0, 0);
         x.pay(0, 5);
@@ -366,7 +355,7 @@ final class DaysAndBreachesTest {
     }
 
     private static void promise7FineWithoutWinners() {
-        SilenceHours x = Checks.auction(100, 100);
+        Auction x = Auction.of(CHECKS, 100, 100);
         x.bid(0, 0, 6, Checks.QUIET, 10);
         x.settle();
         x.bid(0, 0, 6, Checks.QUIET, 8);
@@ -383,11 +372,11 @@ final class DaysAndBreachesTest {
     }
 
     private static void promise7Errors() {
-        SilenceHours x = Checks.auction(100);
+        Auction x = Auction.of(CHECKS, 100);
         x.bid(0, 2, 4, Checks.NOISE, 1);
         CHECKS.due("breach before noise has won", x.breach(0, 2, 4), 20);
         x.settle();
-        String before = Checks.allSeen(x);
+        String before = x.allSeen();
         CHECKS.due("breach of noise", x.breach(0, 2, 4), Checks.ILLEGAL);
         CHECKS.due("person 1", x.breach(1, 2, 4), Checks.INVALID);
         CHECKS.due("street 4", x.breach(0, 4, 4), Checks.INVALID);
@@ -397,21 +386,21 @@ final class DaysAndBreachesTest {
             CHECKS.due("street " + far, x.breach(0, far, 4), Checks.INVALID);
             CHECKS.due("hour " + far, x.breach(0, 2, far), Checks.INVALID);
         }
-        CHECKS.dueText("nothing has changed", Checks.allSeen(x), before);
+        CHECKS.dueText("nothing has changed", x.allSeen(), before);
     }
 
     private static void promise8Undo() {
-        SilenceHours x = new SilenceHours();
+        Auction x = Auction.of(CHECKS);
         CHECKS.due("undo of nothing", x.undo(), Checks.ILLEGAL);
         String[] before = new String[8];
         for (int step = 0; step < 8; step++) {
-            before[step] = Checks.seen(x);
+            before[step] = x.seen();
             x.join(step);
             CHECKS.due("states", x.count(8), Math.min(step + 1, 5));
         }
         for (int step = 7; step >= 3; step--) {
             CHECKS.due("undo", x.undo(), step - 3);
-            CHECKS.dueText("the state before step " + step, Checks.seen(x), before[step]);
+            CHECKS.dueText("the state before step " + step, x.seen(), before[step]);
         }
         CHECKS.due("undo of what was dropped", x.undo(), Checks.ILLEGAL);
         CHECKS.due("people", x.count(1), 3);
@@ -421,7 +410,7 @@ final class DaysAndBreachesTest {
     }
 
     private static void promise8UndoEachAction() {
-        SilenceHours x = Checks.auction(10, 100);
+        Auction x = Auction.of(CHECKS, 10, 100);
         x.bid(0, 0, 0, Checks.QUIET, 5);
         x.bid(1, 0, 0, Checks.NOISE, 50);
         x.bid(1, 1, 0, Checks.QUIET, 3);
@@ -429,18 +418,18 @@ final class DaysAndBreachesTest {
         x.breach(0, 2, 2);
         x.bid(1, 0, 0, Checks.NOISE, 4);
         x.bid(1, 2, 2, Checks.NOISE, 7);
-        Checks.write(x, "q1:0-2=1;");
+        x.write("q1:0-2=1;");
         for (int action = 0; action < 9; action++) {
-            String before = Checks.seen(x);
+            String before = x.seen();
             int answer = act(x, action);
             CHECKS.due("action " + action + " answers " + answer + ", no error", answer >= 0 ? 1 : 0, 1);
             CHECKS.due("states behind action " + action, x.count(8), 5);
             CHECKS.due("undo of action " + action, x.undo(), 4);
-            CHECKS.dueText("state before action " + action, Checks.seen(x), before);
+            CHECKS.dueText("state before action " + action, x.seen(), before);
         }
     }
 
-    private static int act(SilenceHours x, int action) {
+    private static int act(Auction x, int action) {
         switch (action) {
             case 0: return x.join(3);
             case 1: return x.pay(0, 9);
@@ -456,7 +445,7 @@ final class DaysAndBreachesTest {
 
     /** Whom a fine goes to, which fund a debt, and which side a tie: it shows only in what is done next. */
     private static void promise8UndoOfWhatIsNotSeen() {
-        SilenceHours x = Checks.auction(0, 100, 100);
+        Auction x = Auction.of(CHECKS, 0, 100, 100);
         x.bid(1, 0, 0, Checks.QUIET, 4);
         x.settle();
         x.breach(0, 1, 0);
@@ -482,10 +471,10 @@ final class DaysAndBreachesTest {
     }
 
     private static void promise8UndoKeepsTextAndFailure() {
-        SilenceHours x = Checks.auction(10);
-        Checks.write(x, "q0:0=1;");
+        Auction x = Auction.of(CHECKS, 10);
+        x.write("q0:0=1;");
         x.run(0);
-        Checks.runText(x, 0, "q0:0=1;x");
+        x.runText(0, "q0:0=1;x");
         x.undo();
         CHECKS.due("the bid is gone", x.bidOf(0, 0, 0), Checks.NONE);
         CHECKS.due("the text stays", x.count(9), 8);
@@ -497,15 +486,15 @@ final class DaysAndBreachesTest {
     }
 
     private static void promise8UnsuccessfulCallsAreNotRecorded() {
-        SilenceHours x = Checks.auction(10);
+        Auction x = Auction.of(CHECKS, 10);
         x.join(-1);
         x.pay(0, -11);
         x.bid(0, 0, 0, 0, 11);
         x.setFine(-1);
         x.breach(0, 4, 0);
-        Checks.runText(x, 0, "q0:0=11;");
+        x.runText(0, "q0:0=11;");
         x.run(1);
-        Checks.runText(x, 0, "q0:0=11");
+        x.runText(0, "q0:0=11");
         CHECKS.due("states", x.count(8), 1);
         x.undo();
         x.undo();

@@ -17,7 +17,7 @@ final class ForecastsTest {
     }
 
     private static void promise18Winner() {
-        SilenceHours x = Checks.auction(500, 500);
+        Auction x = Auction.of(CHECKS, 500, 500);
         CHECKS.due("without bids", x.winner(1, 2), Checks.QUIET);
         x.bid(0, 1, 2, Checks.NOISE, 5);
         CHECKS.due("noise alone", x.winner(1, 2), Checks.NOISE);
@@ -40,7 +40,7 @@ final class ForecastsTest {
     }
 
     private static void promise18WinnerErrors() {
-        SilenceHours x = new SilenceHours();
+        Auction x = Auction.of(CHECKS);
         CHECKS.due("winner(4, 0)", x.winner(4, 0), Checks.INVALID);
         CHECKS.due("winner(0, 24)", x.winner(0, 24), Checks.INVALID);
         CHECKS.due("winner(3, 23)", x.winner(3, 23), Checks.QUIET);
@@ -51,7 +51,7 @@ final class ForecastsTest {
     }
 
     private static void promise19NeededWithBids() {
-        SilenceHours x = Checks.auction(5000, 5000, 5000);
+        Auction x = Auction.of(CHECKS, 5000, 5000, 5000);
         x.bid(0, 0, 0, Checks.QUIET, 10);
         CHECKS.due("quiet against nothing", x.needed(0, 0, Checks.QUIET), 0);
         CHECKS.due("noise, which would lose the tie", x.needed(0, 0, Checks.NOISE), 11);
@@ -77,7 +77,7 @@ final class ForecastsTest {
     }
 
     private static void promise19NeededWithoutBids() {
-        SilenceHours x = Checks.auction(5000, 5000);
+        Auction x = Auction.of(CHECKS, 5000, 5000);
         CHECKS.due("quiet at first", x.needed(2, 2, Checks.QUIET), 0);
         CHECKS.due("noise at first", x.needed(2, 2, Checks.NOISE), 1);
         x.bid(0, 2, 2, Checks.QUIET, 8);
@@ -92,7 +92,7 @@ final class ForecastsTest {
 
     /** The answer is held against bids that a new bidder really makes. */
     private static void promise19NeededIsSmallest() {
-        SilenceHours x = Checks.auction(9000, 9000, 9000);
+        Auction x = Auction.of(CHECKS, 9000, 9000, 9000);
         int[] quietBids = {0, 3, 7, 7, 0, 9, 2, 0, 5};
         int[] noiseBids = {0, 5, 7, 9, 2, 0, 2, 0, 9};
         for (int day = 0; day < quietBids.length; day++) {
@@ -112,7 +112,7 @@ final class ForecastsTest {
     }
 
     private static void promise19NeededErrors() {
-        SilenceHours x = new SilenceHours();
+        Auction x = Auction.of(CHECKS);
         CHECKS.due("needed(4, 0, 0)", x.needed(4, 0, 0), Checks.INVALID);
         CHECKS.due("needed(0, 24, 0)", x.needed(0, 24, 0), Checks.INVALID);
         CHECKS.due("needed(0, 0, 2)", x.needed(0, 0, 2), Checks.INVALID);
@@ -139,8 +139,8 @@ final class ForecastsTest {
     }
 
     private static void quietIs(String plan, int hours, int longest, int first) {
-        SilenceHours x = Checks.auction(1000);
-        Checks.runText(x, 0, plan);
+        Auction x = Auction.of(CHECKS, 1000);
+        x.runText(0, plan);
         CHECKS.due("quiet before the day of " + plan, x.quiet(1, 0), 24);
         x.settle();
         CHECKS.due("hours of " + plan, x.quiet(1, 0), hours);
@@ -149,7 +149,7 @@ final class ForecastsTest {
     }
 
     private static void promise20QuietErrors() {
-        SilenceHours x = new SilenceHours();
+        Auction x = Auction.of(CHECKS);
         CHECKS.due("quiet(4, 0)", x.quiet(4, 0), Checks.INVALID);
         CHECKS.due("quiet(0, 3)", x.quiet(0, 3), Checks.INVALID);
         for (int far : Checks.FAR_OFF) {
@@ -159,7 +159,7 @@ final class ForecastsTest {
     }
 
     private static void promise21PurseThen() {
-        SilenceHours x = Checks.auction(100, 100, 3);
+        Auction x = Auction.of(CHECKS, 100, 100, 3);
         CHECKS.due("without bids", x.purseThen(0), 100);
         x.bid(0, 0, 0, Checks.NOISE, 10);
         x.bid(0, 3, 23, Checks.QUIET, 10);
@@ -168,13 +168,13 @@ final class ForecastsTest {
         x.bid(2, 0, 0, Checks.QUIET, 3);
         x.setFine(4);
         x.breach(2, 2, 2);
-        String before = Checks.allSeen(x);
+        String before = x.allSeen();
         // 0 pays 10 and gets 15, 1 pays 15 and gets 10 * 3 / 6, 2 gets 5 less the debt of 4.
         int[] purses = {105, 90, 4};
         for (int person = 0; person < purses.length; person++) {
             CHECKS.due("purseThen(" + person + ")", x.purseThen(person), purses[person]);
         }
-        CHECKS.dueText("nothing has changed", Checks.allSeen(x), before);
+        CHECKS.dueText("nothing has changed", x.allSeen(), before);
         x.settle();
         for (int person = 0; person < purses.length; person++) {
             CHECKS.due("purse of " + person, x.person(person, 0), purses[person]);
@@ -182,7 +182,7 @@ final class ForecastsTest {
     }
 
     private static void promise21PurseThenErrors() {
-        SilenceHours x = Checks.auction(100);
+        Auction x = Auction.of(CHECKS, 100);
         CHECKS.due("purseThen(1)", x.purseThen(1), Checks.INVALID);
         for (int far : Checks.FAR_OFF) {
             CHECKS.due("purseThen(" + far + ")", x.purseThen(far), Checks.INVALID);

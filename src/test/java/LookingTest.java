@@ -13,8 +13,8 @@ final class LookingTest {
     }
 
     /** Two days with bids in streets 0 and 2, and a breach with a debt. */
-    private static SilenceHours used() {
-        SilenceHours x = Checks.auction(100, 200, 300);
+    private static Auction used() {
+        Auction x = Auction.of(CHECKS, 100, 200, 300);
         x.bid(0, 0, 5, Checks.QUIET, 20);
         x.bid(1, 0, 5, Checks.NOISE, 30);
         x.bid(2, 0, 5, Checks.NOISE, 3);
@@ -26,12 +26,12 @@ final class LookingTest {
         x.bid(2, 3, 0, Checks.NOISE, 5);
         x.setFine(500);
         x.breach(0, 1, 0);
-        Checks.write(x, "abc");
+        x.write("abc");
         return x;
     }
 
     private static void promise13Count() {
-        SilenceHours x = used();
+        Auction x = used();
         // Purses: 133 less 132 of the fine, 130 and 297; funds: 132 in street 1 and 40 in street 2.
         int[] counts = {1, 3, 4, 2, 500, 600, 368, 1, 5, 3};
         for (int what = 0; what < counts.length; what++) {
@@ -44,7 +44,7 @@ final class LookingTest {
     }
 
     private static void promise14Person() {
-        SilenceHours x = used();
+        Auction x = used();
         int[][] properties = {
             {1, 0, 368, 1, 0, 0, 33, 1},
             {130, 128, 0, 1, 2, 70, 0, 0},
@@ -64,7 +64,7 @@ final class LookingTest {
     }
 
     private static void promise15Slot() {
-        SilenceHours x = used();
+        Auction x = used();
         slotIs(x, 0, 5, new int[] {1, 6, 1, 10, 3, 33});
         slotIs(x, 2, 23, new int[] {1, 0, 0, 0, 0, 40});
         slotIs(x, 3, 0, new int[] {0, 0, 5, 0, 1, 0});
@@ -83,14 +83,14 @@ final class LookingTest {
         }
     }
 
-    private static void slotIs(SilenceHours x, int street, int hour, int[] properties) {
+    private static void slotIs(Auction x, int street, int hour, int[] properties) {
         for (int what = 0; what < properties.length; what++) {
             CHECKS.due("slot(" + street + ", " + hour + ", " + what + ")", x.slot(street, hour, what), properties[what]);
         }
     }
 
     private static void promise16BidOf() {
-        SilenceHours x = Checks.auction(5000, 5000);
+        Auction x = Auction.of(CHECKS, 5000, 5000);
         x.bid(0, 3, 23, Checks.QUIET, 999);
         x.bid(1, 3, 23, Checks.NOISE, 999);
         x.bid(1, 0, 0, Checks.NOISE, 1);
@@ -113,7 +113,7 @@ final class LookingTest {
     }
 
     private static void promise17Fund() {
-        SilenceHours x = used();
+        Auction x = used();
         int[] funds = {0, 132, 40, 0};
         for (int street = 0; street < funds.length; street++) {
             CHECKS.due("fund(" + street + ")", x.fund(street), funds[street]);
@@ -125,8 +125,8 @@ final class LookingTest {
     }
 
     private static void lookingChangesNothing() {
-        SilenceHours x = used();
-        String before = Checks.allSeen(x);
+        Auction x = used();
+        String before = x.allSeen();
         for (int times = 0; times < 2; times++) {
             for (int street = 0; street < 4; street++) {
                 for (int what = 0; what < 3; what++) {
@@ -136,7 +136,7 @@ final class LookingTest {
                     x.needed(street, what, times);
                 }
             }
-            CHECKS.dueText("what is seen", Checks.allSeen(x), before);
+            CHECKS.dueText("what is seen", x.allSeen(), before);
         }
     }
 }

@@ -53,6 +53,15 @@ abstract class MarkedTests {
         }
     }
 
+    /** Holds what is no answer of an auction against what is due. */
+    final void due(String what, int got, int want) {
+        checks.due(what, got, want);
+    }
+
+    final void dueText(String what, String got, String want) {
+        checks.dueText(what, got, want);
+    }
+
     /** A new auction in which a person has joined for each purse. */
     final Auction auction(int... purses) {
         return auctionAfter(x -> x.joinAll(purses));

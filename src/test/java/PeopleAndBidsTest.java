@@ -20,30 +20,34 @@ final class PeopleAndBidsTest {
     }
 
     private static void promise1NewObject() {
-        SilenceHours x = new SilenceHours();
+        Auction x = Auction.of(CHECKS);
         int[] counts = {0, 0, 0, 0, 20, 0, 0, 0, 0, 0};
         for (int what = 0; what < counts.length; what++) {
             CHECKS.due("count(" + what + ")", x.count(what), counts[what]);
         }
         for (int street = 0; street < 4; street++) {
-            CHECKS.due("fund", x.fund(street), 0);
-            for (int hour = 0; hour < 24; hour++) {
-                for (int what = 0; what <= 5; what++) {
-                    CHECKS.due("slot", x.slot(street, hour, what), 0);
-                }
-                CHECKS.due("winner", x.winner(street, hour), 0);
-            }
+            promise1NewStreet(Auction.of(CHECKS), street);
         }
         CHECKS.due("person", x.person(0, 0), Checks.INVALID);
         CHECKS.due("undo", x.undo(), Checks.ILLEGAL);
         CHECKS.due("clearText", x.clearText(), 0);
-        SilenceHours other = Checks.auction(7);
+        Auction other = Auction.of(CHECKS, 7);
         CHECKS.due("people of another object", x.count(1), 0);
         CHECKS.due("people of that object", other.count(1), 1);
     }
 
+    private static void promise1NewStreet(Auction x, int street) {
+        CHECKS.due("fund", x.fund(street), 0);
+        for (int hour = 0; hour < 24; hour++) {
+            for (int what = 0; what <= 5; what++) {
+                CHECKS.due("slot", x.slot(street, hour, what), 0);
+            }
+            CHECKS.due("winner", x.winner(street, hour), 0);
+        }
+    }
+
     private static void promise2Join() {
-        SilenceHours x = new SilenceHours();
+        Auction x = Auction.of(CHECKS);
         CHECKS.due("join(0)", x.join(0), 0);
         CHECKS.due("join(100000)", x.join(100000), 1);
         CHECKS.due("join(100001)", x.join(100001), Checks.INVALID);
@@ -57,7 +61,7 @@ final class PeopleAndBidsTest {
     }
 
     private static void promise2JoinWhenFull() {
-        SilenceHours x = new SilenceHours();
+        Auction x = Auction.of(CHECKS);
         for (int person = 0; person < 12; person++) {
             CHECKS.due("join", x.join(person), person);
         }
@@ -71,13 +75,13 @@ final class PeopleAndBidsTest {
     }
 
     private static void promise3Pay() {
-        SilenceHours x = Checks.auction(10);
+        Auction x = Auction.of(CHECKS, 10);
         CHECKS.due("pay 5", x.pay(0, 5), 15);
         CHECKS.due("pay 0", x.pay(0, 0), 15);
         CHECKS.due("states", x.count(8), 3);
         CHECKS.due("pay the most", x.pay(0, 100000), 100015);
         CHECKS.due("pay out the most", x.pay(0, -100000), 15);
-        String before = Checks.allSeen(x);
+        String before = x.allSeen();
         CHECKS.due("pay too much", x.pay(0, 100001), Checks.INVALID);
         CHECKS.due("pay out too much", x.pay(0, -100001), Checks.INVALID);
         CHECKS.due("pay the greatest", x.pay(0, Integer.MAX_VALUE), Checks.INVALID);
@@ -86,22 +90,22 @@ final class PeopleAndBidsTest {
         for (int person : Checks.FAR_OFF) {
             CHECKS.due("pay(" + person + ")", x.pay(person, 1), Checks.INVALID);
         }
-        CHECKS.dueText("nothing has changed", Checks.allSeen(x), before);
+        CHECKS.dueText("nothing has changed", x.allSeen(), before);
     }
 
     private static void promise3PayOut() {
-        SilenceHours x = Checks.auction(10);
+        Auction x = Auction.of(CHECKS, 10);
         x.bid(0, 1, 2, Checks.NOISE, 4);
-        String before = Checks.allSeen(x);
+        String before = x.allSeen();
         CHECKS.due("more than the free money", x.pay(0, -7), Checks.ILLEGAL);
-        CHECKS.dueText("nothing has changed", Checks.allSeen(x), before);
+        CHECKS.dueText("nothing has changed", x.allSeen(), before);
         CHECKS.due("all the free money", x.pay(0, -6), 4);
         CHECKS.due("free", x.person(0, 1), 0);
         CHECKS.due("nothing out of nothing", x.pay(0, 0), 4);
     }
 
     private static void promise3PayForDebt() {
-        SilenceHours x = Checks.auction(5);
+        Auction x = Auction.of(CHECKS, 5);
         x.breach(0, 2, 3);
         CHECKS.due("debt", x.person(0, 2), 15);
         CHECKS.due("fund", x.fund(2), 5);
@@ -118,7 +122,7 @@ final class PeopleAndBidsTest {
 
     /** A bid that was lost is free money again, and the debt stays. */
     private static void promise3PayOutWithDebtAndFreeMoney() {
-        SilenceHours x = Checks.auction(5, 100);
+        Auction x = Auction.of(CHECKS, 5, 100);
         x.bid(0, 0, 0, Checks.QUIET, 5);
         x.bid(1, 0, 0, Checks.NOISE, 6);
         x.setFine(7);
@@ -133,7 +137,7 @@ final class PeopleAndBidsTest {
     }
 
     private static void promise3PurseLimit() {
-        SilenceHours x = Checks.auction(100000, 999);
+        Auction x = Auction.of(CHECKS, 100000, 999);
         for (int times = 0; times < 99; times++) {
             x.pay(0, 100000);
         }
@@ -148,7 +152,7 @@ final class PeopleAndBidsTest {
 
     /** A share can lift a purse above the limit: then what is paid must bring it down to the limit. */
     private static void promise3PurseAboveLimit() {
-        SilenceHours x = Checks.auction(100000, 999);
+        Auction x = Auction.of(CHECKS, 100000, 999);
         for (int times = 0; times < 99; times++) {
             x.pay(0, 100000);
         }
@@ -162,7 +166,7 @@ final class PeopleAndBidsTest {
     }
 
     private static void promise4Bid() {
-        SilenceHours x = Checks.auction(1500);
+        Auction x = Auction.of(CHECKS, 1500);
         CHECKS.due("bid 999", x.bid(0, 0, 0, Checks.QUIET, 999), 501);
         CHECKS.due("bid more than is free", x.bid(0, 0, 1, Checks.QUIET, 502), Checks.ILLEGAL);
         CHECKS.due("bid all that is free", x.bid(0, 3, 23, Checks.NOISE, 501), 0);
@@ -180,8 +184,8 @@ final class PeopleAndBidsTest {
     }
 
     private static void promise4BidRanges() {
-        SilenceHours x = Checks.auction(5000);
-        String before = Checks.allSeen(x);
+        Auction x = Auction.of(CHECKS, 5000);
+        String before = x.allSeen();
         for (int far : Checks.FAR_OFF) {
             CHECKS.due("person " + far, x.bid(far, 0, 0, 0, 1), Checks.INVALID);
             CHECKS.due("street " + far, x.bid(0, far, 0, 0, 1), Checks.INVALID);
@@ -195,19 +199,19 @@ final class PeopleAndBidsTest {
         CHECKS.due("side 2", x.bid(0, 0, 0, 2, 1), Checks.INVALID);
         CHECKS.due("side 2 without a bid", x.bid(0, 0, 0, 2, 0), Checks.INVALID);
         CHECKS.due("amount 1000", x.bid(0, 0, 0, 0, 1000), Checks.INVALID);
-        CHECKS.dueText("nothing has changed", Checks.allSeen(x), before);
+        CHECKS.dueText("nothing has changed", x.allSeen(), before);
     }
 
     private static void promise4BidWithDebt() {
-        SilenceHours x = Checks.auction(10, 50);
+        Auction x = Auction.of(CHECKS, 10, 50);
         x.bid(0, 1, 1, Checks.NOISE, 10);
         x.bid(1, 1, 1, Checks.NOISE, 1);
         x.breach(0, 0, 0);
-        String before = Checks.allSeen(x);
+        String before = x.allSeen();
         CHECKS.due("bid with a debt", x.bid(0, 0, 0, 0, 1), Checks.ILLEGAL);
         CHECKS.due("take a bid back with a debt", x.bid(0, 1, 1, 0, 0), Checks.ILLEGAL);
         CHECKS.due("a bad amount with a debt", x.bid(0, 1, 1, 0, 1000), Checks.INVALID);
-        CHECKS.dueText("nothing has changed", Checks.allSeen(x), before);
+        CHECKS.dueText("nothing has changed", x.allSeen(), before);
         CHECKS.due("the bid stays", x.bidOf(0, 1, 1), 1010);
         x.pay(0, 19);
         CHECKS.due("debt", x.person(0, 2), 1);
@@ -217,7 +221,7 @@ final class PeopleAndBidsTest {
     }
 
     private static void promise5SetFine() {
-        SilenceHours x = Checks.auction(2000);
+        Auction x = Auction.of(CHECKS, 2000);
         CHECKS.due("setFine(0)", x.setFine(0), 20);
         CHECKS.due("setFine(1000)", x.setFine(1000), 0);
         CHECKS.due("setFine(1001)", x.setFine(1001), Checks.INVALID);

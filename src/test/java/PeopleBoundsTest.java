@@ -6,30 +6,6 @@ final class PeopleBoundsTest extends MarkedTests {
         new PeopleBoundsTest().runAll();
     }
 
-    @Says(in = "What it is", words = "An object is used for at most 512 calls after it has been made; what later calls "
-        + "answer is free.")
-    void the512thCallStillAnswers() {
-        Auction settled = auction();
-        for (int day = 0; day < 511; day++) {
-            settled.due(settled.settle(), 0);
-        }
-        settled.due(settled.count(0), 511);
-        Auction bid = auction(100000);
-        for (int call = 0; call < 510; call++) {
-            bid.bid(0, call % 4, call % 24, call % 2, call + 1);
-        }
-        bid.due(bid.purseThen(0), 100000 - bidsThatAreLeft());
-    }
-
-    /** The sum of the last bid for each of the 24 slots in which the bids fall. */
-    private static int bidsThatAreLeft() {
-        int sum = 0;
-        for (int call = 510 - 24; call < 510; call++) {
-            sum += call + 1;
-        }
-        return sum;
-    }
-
     // ---- Terms
 
     @Says(in = "Terms", words = "All numbers are whole. Quotients are rounded down.")

@@ -312,6 +312,19 @@ final class PlansBoundsTest extends MarkedTests {
         bidFails(purse(5), "n1:0=1;2*(q1:3-7=2;)", 10, 1, 2, ILLEGAL);
     }
 
+    /** Of 10, a bid of 9 for the first hour gives back what the later hours need; one for the last hour comes too late. */
+    @Says(in = "Plans", words = "hour by hour, as by bid()")
+    void theHoursOfAPartGoUp() {
+        Auction x = auction(10);
+        x.bid(0, 2, 4, NOISE, 9);
+        x.due(x.runText(0, "q2:4-6=3;"), 3);
+        x.due(x.person(0, 1), 1);
+        bidFails(y -> {
+            y.join(10);
+            y.bid(0, 2, 6, NOISE, 9);
+        }, "q2:4-6=3;", 0, 0, 0, ILLEGAL);
+    }
+
     // ---- failures
 
     @Says(in = "Plans", words = {"A failure is of the kind 1 if a character is not allowed where it stands",

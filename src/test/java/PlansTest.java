@@ -21,7 +21,7 @@ final class PlansTest {
     }
 
     private static void promise9Append() {
-        SilenceHours x = new SilenceHours();
+        Auction x = Auction.of(CHECKS);
         CHECKS.due("append(0)", x.append(0), Checks.INVALID);
         CHECKS.due("append(256)", x.append(256), Checks.INVALID);
         CHECKS.due("append(1)", x.append(1), 1);
@@ -39,30 +39,30 @@ final class PlansTest {
     }
 
     private static void promise10ClearText() {
-        SilenceHours x = Checks.auction(10);
+        Auction x = Auction.of(CHECKS, 10);
         CHECKS.due("clearText", x.clearText(), 0);
-        Checks.write(x, "q0:0=");
+        x.write("q0:0=");
         CHECKS.due("clearText", x.clearText(), 5);
         CHECKS.due("length", x.count(9), 0);
         CHECKS.due("clearText again", x.clearText(), 0);
-        CHECKS.due("run", Checks.runText(x, 0, "n0:0=1;"), 1);
+        CHECKS.due("run", x.runText(0, "n0:0=1;"), 1);
         CHECKS.due("states", x.count(8), 2);
     }
 
     private static void promise11Run() {
-        SilenceHours x = Checks.auction(1000, 50);
-        CHECKS.due("one hour", Checks.runText(x, 0, "q0:0=1;"), 1);
+        Auction x = Auction.of(CHECKS, 1000, 50);
+        CHECKS.due("one hour", x.runText(0, "q0:0=1;"), 1);
         CHECKS.due("the bid", x.bidOf(0, 0, 0), 1);
         CHECKS.due("the text stays", x.count(9), 7);
         CHECKS.due("by another person", x.run(1), 1);
         CHECKS.due("the bid", x.bidOf(1, 0, 0), 1);
-        CHECKS.due("some hours", Checks.runText(x, 0, "n3:20-23=9;"), 4);
+        CHECKS.due("some hours", x.runText(0, "n3:20-23=9;"), 4);
         CHECKS.due("before the first", x.bidOf(0, 3, 19), Checks.NONE);
         CHECKS.due("the first", x.bidOf(0, 3, 20), 1009);
         CHECKS.due("the last", x.bidOf(0, 3, 23), 1009);
-        CHECKS.due("the same hour twice", Checks.runText(x, 0, "q1:7-7=100;"), 1);
-        CHECKS.due("the greatest amount", Checks.runText(x, 0, "q2:0=999;"), -1000);
-        CHECKS.due("all hours", Checks.runText(x, 0, "q2:0-23=1;"), 24);
+        CHECKS.due("the same hour twice", x.runText(0, "q1:7-7=100;"), 1);
+        CHECKS.due("the greatest amount", x.runText(0, "q2:0=999;"), -1000);
+        CHECKS.due("all hours", x.runText(0, "q2:0-23=1;"), 24);
         CHECKS.due("free", x.person(0, 1), 1000 - 1 - 36 - 100 - 24);
         CHECKS.due("person 2", x.run(2), Checks.INVALID);
         for (int far : Checks.FAR_OFF) {
@@ -72,64 +72,64 @@ final class PlansTest {
     }
 
     private static void promise11RunMultiplies() {
-        SilenceHours x = Checks.auction(5000);
-        CHECKS.due("run", Checks.runText(x, 0, "2*(q0:0=5;3*(n0:1=5;)q0:2=5;)q0:3=5;(q0:4=5;)"), 5);
+        Auction x = Auction.of(CHECKS, 5000);
+        CHECKS.due("run", x.runText(0, "2*(q0:0=5;3*(n0:1=5;)q0:2=5;)q0:3=5;(q0:4=5;)"), 5);
         int[] bids = {10, 1030, 10, 5, 5};
         for (int hour = 0; hour < bids.length; hour++) {
             CHECKS.due("hour " + hour, x.bidOf(0, 0, hour), bids[hour]);
         }
-        CHECKS.due("9 times", Checks.runText(x, 0, "9*(9*(9*(q1:0=1;)))"), 1);
+        CHECKS.due("9 times", x.runText(0, "9*(9*(9*(q1:0=1;)))"), 1);
         CHECKS.due("729", x.bidOf(0, 1, 0), 729);
-        CHECKS.due("four deep", Checks.runText(x, 0, "2*(3*((4*(n1:1-2=2;))))"), 2);
+        CHECKS.due("four deep", x.runText(0, "2*(3*((4*(n1:1-2=2;))))"), 2);
         CHECKS.due("48", x.bidOf(0, 1, 2), 1048);
-        CHECKS.due("one behind the other", Checks.runText(x, 0, "5*()5*(q1:3=1;)()q1:4=1;"), 2);
+        CHECKS.due("one behind the other", x.runText(0, "5*()5*(q1:3=1;)()q1:4=1;"), 2);
         CHECKS.due("5", x.bidOf(0, 1, 3), 5);
         CHECKS.due("1", x.bidOf(0, 1, 4), 1);
-        CHECKS.due("999", Checks.runText(x, 0, "9*(q1:5=111;)"), 1);
+        CHECKS.due("999", x.runText(0, "9*(q1:5=111;)"), 1);
         CHECKS.due("999", x.bidOf(0, 1, 5), 999);
     }
 
     private static void promise11RunInOrder() {
-        SilenceHours x = Checks.auction(100);
-        CHECKS.due("a bid in place of one", Checks.runText(x, 0, "q0:0-3=9;n0:2=8;q0:3=7;"), 6);
+        Auction x = Auction.of(CHECKS, 100);
+        CHECKS.due("a bid in place of one", x.runText(0, "q0:0-3=9;n0:2=8;q0:3=7;"), 6);
         CHECKS.due("bids", x.count(2), 4);
         CHECKS.due("hour 1", x.bidOf(0, 0, 1), 9);
         CHECKS.due("hour 2", x.bidOf(0, 0, 2), 1008);
         CHECKS.due("hour 3", x.bidOf(0, 0, 3), 7);
-        CHECKS.due("the money of a bid before", Checks.runText(x, 0, "q0:0-1=1;q0:4=83;"), 3);
+        CHECKS.due("the money of a bid before", x.runText(0, "q0:0-1=1;q0:4=83;"), 3);
         CHECKS.due("free", x.person(0, 1), 0);
-        CHECKS.due("in the other order", Checks.runText(x, 0, "q0:4=84;q0:0=1;"), -1000);
+        CHECKS.due("in the other order", x.runText(0, "q0:4=84;q0:0=1;"), -1000);
     }
 
     private static void promise11RunWithoutBids() {
-        SilenceHours x = Checks.auction(0);
+        Auction x = Auction.of(CHECKS, 0);
         x.breach(0, 0, 0);
         CHECKS.due("an empty text, with a debt", x.run(0), 0);
         CHECKS.due("states", x.count(8), 3);
-        CHECKS.due("empty groups", Checks.runText(x, 0, "()2*((9*()))"), 0);
+        CHECKS.due("empty groups", x.runText(0, "()2*((9*()))"), 0);
         CHECKS.due("states", x.count(8), 4);
-        CHECKS.due("a bid, with a debt", Checks.runText(x, 0, "q0:0=1;"), -1000);
+        CHECKS.due("a bid, with a debt", x.runText(0, "q0:0=1;"), -1000);
     }
 
     private static void promise11RunIsOneAction() {
-        SilenceHours x = Checks.auction(1000);
-        String before = Checks.seen(x);
-        CHECKS.due("run", Checks.runText(x, 0, "q0:0-23=1;n1:0-23=2;"), 48);
+        Auction x = Auction.of(CHECKS, 1000);
+        String before = x.seen();
+        CHECKS.due("run", x.runText(0, "q0:0-23=1;n1:0-23=2;"), 48);
         CHECKS.due("states", x.count(8), 2);
         CHECKS.due("undo", x.undo(), 1);
-        CHECKS.dueText("the state before", Checks.seen(x), before);
+        CHECKS.dueText("the state before", x.seen(), before);
     }
 
     private static void failsAt(String text, int place) {
-        SilenceHours x = Checks.auction(100000);
-        String before = Checks.seen(x);
-        CHECKS.due("run of " + text, Checks.runText(x, 0, text), -1000 - place);
+        Auction x = Auction.of(CHECKS, 100000);
+        String before = x.seen();
+        CHECKS.due("run of " + text, x.runText(0, text), -1000 - place);
         CHECKS.due("kind of " + text, x.failure(0), 1);
         CHECKS.due("place of " + text, x.failure(1), place);
         CHECKS.due("bids before " + text, x.failure(3), 0);
         CHECKS.due("code of " + text, x.failure(4), Checks.NONE);
         CHECKS.due("states behind " + text, x.count(8), 1);
-        CHECKS.dueText("state behind " + text, Checks.seen(x), before);
+        CHECKS.dueText("state behind " + text, x.seen(), before);
     }
 
     private static void promise11ReadingFails() {
@@ -212,8 +212,8 @@ final class PlansTest {
     }
 
     private static void depthIs(String text, int depth) {
-        SilenceHours x = Checks.auction(5);
-        int answer = Checks.runText(x, 0, text);
+        Auction x = Auction.of(CHECKS, 5);
+        int answer = x.runText(0, text);
         CHECKS.due("a failure of " + text, answer <= -1000 ? 1 : 0, 1);
         CHECKS.due("depth of " + text, x.failure(2), depth);
     }
@@ -241,20 +241,20 @@ final class PlansTest {
         depthIs("()(q0:1=1;)q0:2=5;", 0);
     }
 
-    private static void bidFails(SilenceHours x, String text, int place, int depth, int made, int code) {
-        String before = Checks.seen(x);
+    private static void bidFails(Auction x, String text, int place, int depth, int made, int code) {
+        String before = x.seen();
         int states = x.count(8);
-        CHECKS.due("run of " + text, Checks.runText(x, 0, text), -1000 - place);
+        CHECKS.due("run of " + text, x.runText(0, text), -1000 - place);
         int[] parts = {2, place, depth, made, code};
         for (int what = 0; what < parts.length; what++) {
             CHECKS.due("failure(" + what + ") of " + text, x.failure(what), parts[what]);
         }
         CHECKS.due("states behind " + text, x.count(8), states);
-        CHECKS.dueText("state behind " + text, Checks.seen(x), before);
+        CHECKS.dueText("state behind " + text, x.seen(), before);
     }
 
     private static void promise11BidsFail() {
-        SilenceHours x = Checks.auction(100);
+        Auction x = Auction.of(CHECKS, 100);
         x.bid(0, 0, 2, Checks.NOISE, 7);
         bidFails(x, "q0:1=101;", 0, 0, 0, Checks.ILLEGAL);
         bidFails(x, "q0:1=93;q0:3=1;", 8, 0, 1, Checks.ILLEGAL);
@@ -270,23 +270,23 @@ final class PlansTest {
     }
 
     private static void promise11WholeTextIsReadFirst() {
-        SilenceHours x = Checks.auction(10);
-        CHECKS.due("run", Checks.runText(x, 0, "q0:1=11;x"), -1008);
+        Auction x = Auction.of(CHECKS, 10);
+        CHECKS.due("run", x.runText(0, "q0:1=11;x"), -1008);
         CHECKS.due("kind", x.failure(0), 1);
         CHECKS.due("bids before", x.failure(3), 0);
-        CHECKS.due("the longest text", Checks.runText(x, 0, "q0:1=1;q0:1=1;q0:1=1;q0:1=1;q0:1=1;q0:1=1;q0:1=1;"
+        CHECKS.due("the longest text", x.runText(0, "q0:1=1;q0:1=1;q0:1=1;q0:1=1;q0:1=1;q0:1=1;q0:1=1;"
             + "q0:1=1;q0:1=1;q0:1=1;q0:1=1;q0:1=1;q0:1=1;q0:2=1;()"), 14);
         CHECKS.due("its last bid", x.bidOf(0, 0, 2), 1);
         CHECKS.due("its bids", x.count(2), 2);
-        CHECKS.due("the longest unfinished text", Checks.runText(x, 0, "q0:1=1;q0:1=1;q0:1=1;q0:1=1;q0:1=1;q0:1=1;q0:1=1;"
+        CHECKS.due("the longest unfinished text", x.runText(0, "q0:1=1;q0:1=1;q0:1=1;q0:1=1;q0:1=1;q0:1=1;q0:1=1;"
             + "q0:1=1;q0:1=1;q0:1=1;q0:1=1;q0:1=1;q0:1=1;q0:2=1;(("), -1100);
-        CHECKS.due("empty groups up to the end", Checks.runText(x, 0, "()".repeat(50)), 0);
+        CHECKS.due("empty groups up to the end", x.runText(0, "()".repeat(50)), 0);
     }
 
     private static void promise11EveryCharacter() {
         String allowed = "qn(23456789";
         for (int character = 1; character <= 255; character++) {
-            SilenceHours x = Checks.auction(1);
+            Auction x = Auction.of(CHECKS, 1);
             x.append(character);
             boolean endIsMissing = allowed.indexOf((char) character) >= 0;
             CHECKS.due("run of character " + character, x.run(0), endIsMissing ? -1001 : -1000);
@@ -294,14 +294,14 @@ final class PlansTest {
     }
 
     private static void promise12Failure() {
-        SilenceHours x = Checks.auction(10);
+        Auction x = Auction.of(CHECKS, 10);
         for (int what = 0; what <= 4; what++) {
             CHECKS.due("failure(" + what + ") before any", x.failure(what), Checks.NONE);
         }
         CHECKS.due("failure(5) before any", x.failure(5), Checks.INVALID);
-        Checks.runText(x, 0, "q0:0=1;");
+        x.runText(0, "q0:0=1;");
         CHECKS.due("no failure yet", x.failure(0), Checks.NONE);
-        Checks.runText(x, 0, "(q0:0=1;(q0:1=10;))");
+        x.runText(0, "(q0:0=1;(q0:1=10;))");
         int[] first = {2, 9, 2, 1, Checks.ILLEGAL};
         failureIs(x, first);
         x.run(1);
@@ -309,7 +309,7 @@ final class PlansTest {
         x.run(0);
         x.undo();
         failureIs(x, first);
-        Checks.runText(x, 0, "(q");
+        x.runText(0, "(q");
         failureIs(x, new int[] {1, 2, 1, 0, Checks.NONE});
         CHECKS.due("failure(5)", x.failure(5), Checks.INVALID);
         for (int far : Checks.FAR_OFF) {
@@ -317,7 +317,7 @@ final class PlansTest {
         }
     }
 
-    private static void failureIs(SilenceHours x, int[] parts) {
+    private static void failureIs(Auction x, int[] parts) {
         for (int what = 0; what < parts.length; what++) {
             CHECKS.due("failure(" + what + ")", x.failure(what), parts[what]);
         }
